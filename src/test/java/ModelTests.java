@@ -1,4 +1,5 @@
 import java.util.ArrayList;
+import java.util.Arrays;
 import java.util.List;
 import java.util.Random;
 
@@ -10,7 +11,7 @@ public final class ModelTests {
     private static final int RUNS = 6000;
     private static final int CALLS = 512;
     private static final int[] LENGTHS = {1, 1, 1, 1, 2, 2, 3, 5, 8, 9, 10, 11, 19, 20, 21, 29, 30, 31, 58, 69, 70, 71, 97, 99, 100};
-    private static final int[] STRANGE = {-2, -1, 2, 3, 6, 7, 15, 16, 17, 101, 255, 256, Integer.MIN_VALUE, Integer.MAX_VALUE};
+    private static final int[] STRANGE = {-2, -1, 2, 3, 6, 7, 15, 16, 0, 17, 101, 255, 256, Integer.MIN_VALUE, Integer.MAX_VALUE};
 
     /** What a module was after one tick. */
     private static final class Past {
@@ -28,7 +29,7 @@ public final class ModelTests {
 
         Life() {
             for (boolean[] channels : valid) {
-                java.util.Arrays.fill(channels, true);
+                Arrays.fill(channels, true);
             }
         }
 
@@ -285,6 +286,7 @@ public final class ModelTests {
 
     private static final int[] reached = new int[16];
     private static int mostRecords = 0;
+    private static int lastChannels;
     private static int wrong = 0;
     private static long calls = 0;
 
@@ -338,8 +340,6 @@ public final class ModelTests {
             due(run, "tick(" + lastChannels + ", " + n + ")", x.tick(lastChannels, n), y.tick(lastChannels, n));
         }
     }
-
-    private static int lastChannels;
 
     private static void look(int run, Random r, GearModules x, Model y) {
         int m = module(r);

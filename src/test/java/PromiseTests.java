@@ -42,6 +42,7 @@ public final class PromiseTests {
         wantedValves();
         valveGaps();
         conditions();
+        halfConditions();
         switchWait();
         fail();
         failedModuleStays();
@@ -242,6 +243,7 @@ public final class PromiseTests {
         y.handle(true);
         y.tick(RETRACTED | OPEN, 1);
         due("1 waits for 2, 3 does not", y.valves(0), 9);
+        due("the light of valve 3 alone", y.lights(), 2);
         y.handle(false);
         y.tick(RETRACTED | EXTENDED | OPEN, 1);
         due("4 waits for 3, 1 does not", y.valves(0), 3);
@@ -255,6 +257,12 @@ public final class PromiseTests {
         due("2 waits for 1", y.valves(0), 1);
         y.tick(RETRACTED | OPEN, 1);
         due("2 a tick later", y.valves(0), 5);
+        y.handle(true);
+        y.tick(EXTENDED | OPEN, 1);
+        y.handle(false);
+        y.tick(EXTENDED | OPEN, 1);
+        due("1 waits for 2, 4 does not", y.valves(0), 17);
+        due("the light of valve 4 alone", y.lights() & 2, 2);
     }
 
     /** Channels and handle under which, after three ticks, the condition of one anomaly holds. */
@@ -299,6 +307,34 @@ public final class PromiseTests {
                 }
             }
         }
+    }
+
+    /** A valve that is on is not enough by itself, and neither is a sensor. */
+    private static void halfConditions() {
+        part = "promise 11, half a condition";
+        GearModules x = new GearModules();
+        x.handle(true);
+        x.tick(OPEN | PRESSURE, 3);
+        due("valve 3 on, retracted off", x.running(0, 8), 0);
+        due("valve 1 on, doors open on", x.running(0, 6), 0);
+        due("valve 0 on, pressure on", x.running(0, 12), 0);
+        due("pressure on, valve 0 on", x.running(0, 13), 0);
+        x.tick(EXTENDED | RETRACTED | OPEN, 1);
+        due("valve 3 on, extended on", x.running(0, 9), 0);
+        due("valve 3 on, retracted on", x.running(0, 8), 1);
+        due("extended on, valve 4 off", x.running(0, 10), 0);
+        GearModules y = new GearModules();
+        y.tick(OPEN, 3);
+        due("valve 4 on, extended off", y.running(0, 10), 0);
+        y.tick(EXTENDED | RETRACTED | OPEN, 1);
+        due("valve 4 on, retracted on", y.running(0, 11), 0);
+        due("retracted on, valve 3 off", y.running(0, 8), 0);
+        GearModules z = new GearModules();
+        z.tick(REST, 3);
+        due("pressure off, valve 0 off", z.running(0, 12), 0);
+        due("valve 0 off, pressure off", z.running(0, 13), 0);
+        due("doors open off, valve 1 off", z.running(0, 6), 0);
+        due("extended off, valve 3 off", z.running(0, 9), 0);
     }
 
     private static GearModules upToCondition(int k) {
@@ -392,9 +428,9 @@ public final class PromiseTests {
 
         GearModules z = new GearModules();
         z.handle(true);
-        z.fail(0);
-        z.fail(1);
+        z.tick(REST, 3);
         z.replace(1);
+        z.fail(0);
         z.tick(REST, 5);
         due("failed", z.running(0, 14), 0);
         due("put in after the move", z.running(1, 14), 0);
@@ -664,6 +700,7 @@ public final class PromiseTests {
 
     private static void entry() {
         part = "promise 13";
+        sameTickOrder();
         GearModules x = new GearModules();
         due("none yet", x.entry(0), -1);
         x.tick(0b001_001_001_001_001_001, 1);
@@ -696,12 +733,28 @@ public final class PromiseTests {
         due("a late tick", y.entry(0), 30002 * 32 + 16);
         GearModules z = new GearModules();
         z.fail(0);
-        z.tick(REST | SWITCH, 19);
-        z.handle(true);
-        z.tick(REST | SWITCH & 3 << 15, 1);
-        z.tick(REST | SWITCH, 10);
+        z.tick(REST | SWITCH, 30);
         due("one module's", z.entry(0), 30 * 32 + 16 + 15);
         due("one record", z.entry(1), -1);
+    }
+
+    /** At one tick the order is by anomaly, not by the step at which the module finds it. */
+    private static void sameTickOrder() {
+        GearModules x = new GearModules();
+        x.handle(true);
+        for (int i = 0; i < 2; i++) {
+            x.tick(REST | 1, 5);
+            x.handle(false);
+            x.handle(true);
+        }
+        x.tick(REST | 1, 9);
+        due("none yet", x.entry(0), -1);
+        x.tick(REST | 2, 1);
+        int[] order = {16 + 14, 16 + 12, 16, 14, 12, 0};
+        for (int k = 0; k < 6; k++) {
+            due("at one tick, k = " + k, x.entry(k), 20 * 32 + order[k]);
+        }
+        due("no more", x.entry(6), -1);
     }
 
     private static void word() {
